@@ -11,6 +11,7 @@ public final class ChancesTest {
         seeds();
         nightsRefused();
         nightsOfOne();
+        nightsTogether();
         check.end();
     }
 
@@ -79,8 +80,7 @@ public final class ChancesTest {
         check.due("nights(1)", x.nights(1), 0);
         check.due("once on", x.seed(1), 1442695040888963407L);
         x.nights(2);
-        long once = 6364136223846793005L + 1442695040888963407L;
-        check.due("twice on", x.seed(0), once * 6364136223846793005L + 1442695040888963407L);
+        check.due("twice on", x.seed(0), on(on(1)));
     }
 
     private static void nightsRefused() {
@@ -112,9 +112,31 @@ public final class ChancesTest {
         }
     }
 
+    /** Three lots of which none is a boy or a cell: two boys are out, each time. */
+    private static void nightsTogether() {
+        long seed = 0;
+        while (lotOf(seed) < 24 || lotOf(on(seed)) < 24 || lotOf(on(on(seed))) < 24) {
+            seed++;
+        }
+        PaperTrellis x = Check.of("W220lltlPa0Pb0Pb3");
+        x.step(1, 1);
+        x.step(2, 1);
+        x.seed(seed);
+        check.due("nights(3)", x.nights(3), 6);
+        check.due("THE SEED, three times on", x.seed(0), on(on(on(seed))));
+    }
+
+    private static long on(long seed) {
+        return seed * 6364136223846793005L + 1442695040888963407L;
+    }
+
+    private static long lotOf(long seed) {
+        return (on(seed) >>> 33) % 40;
+    }
+
     private static long seedOf(int lot) {
         long seed = 0;
-        while (((seed * 6364136223846793005L + 1442695040888963407L) >>> 33) % 40 != lot) {
+        while (lotOf(seed) != lot) {
             seed++;
         }
         return seed;

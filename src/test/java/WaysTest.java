@@ -150,6 +150,9 @@ public final class WaysTest {
         PaperTrellis y = Check.of("W540llllllllllllllllllllPa0Pc0Pk0Pm0Pe3");
         y.step(4, 2);
         check.due("a PYM at 19", y.calls(0), 16);
+        PaperTrellis z = Check.of("W430llllllllllllPa0Pc0");
+        z.step(1, 3);
+        check.due("one who is HOME need not hear", z.calls(0), 4);
     }
 
     private static void matches() {
@@ -189,6 +192,7 @@ public final class WaysTest {
         check.due("a figure of no doing", x.judge(2, 400500), 1);
         check.due("a figure of no doing", x.judge(3, 400400900), 2);
         check.due("noughts ahead", x.judge(2, 101), 0);
+        check.due("nothing but noughts", x.judge(4, 0), 0);
         check.due("all four", x.judge(4, 400401400402L), 3);
         check.due("n of 0", x.judge(0, 0), BAD);
         check.due("n of 5", x.judge(5, 0), BAD);

@@ -30,6 +30,25 @@ final class Check {
         }
     }
 
+    /** A paper of leaves alone, without boys. */
+    static String leaves(int w, int h, int drop) {
+        return "W" + w + h + drop + "l".repeat(w * h);
+    }
+
+    /** The part of a text that tells a boy. */
+    static String boy(int cell, int kind) {
+        return "P" + (char) ('a' + cell) + kind;
+    }
+
+    /** A boy steps by each of the ways, none of which may be refused. */
+    static void go(PaperTrellis x, int boy, String ways) {
+        for (int i = 0; i < ways.length(); i++) {
+            if (x.step(boy, ways.charAt(i) - '0') < 0) {
+                throw new IllegalStateException("boy " + boy + " can not go by way " + i + " of " + ways);
+            }
+        }
+    }
+
     /** A new object whose paper is the text. */
     static PaperTrellis of(String text) {
         PaperTrellis x = new PaperTrellis();

@@ -2,7 +2,7 @@ import java.util.Random;
 
 /** Long runs of calls on the class and on the model: each answer must be the same (promises 1 to 30). */
 public final class ModelTest {
-    private static final int RUNS = 150, CALLS = 512;
+    private static final int RUNS = 150, CALLS = 512, MOST_AT_ONCE = 64;
     private static final Check check = new Check("ModelTest");
 
     private final Random random;
@@ -25,7 +25,7 @@ public final class ModelTest {
         if (random.nextInt(8) > 0) {
             newPaper();
         }
-        while (made < CALLS) {
+        while (made + MOST_AT_ONCE <= CALLS) {
             switch (random.nextInt(60)) {
                 case 0 -> newPaper();
                 case 1 -> brokenText();

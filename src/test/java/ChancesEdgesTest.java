@@ -15,6 +15,7 @@ public final class ChancesEdgesTest {
         restsSetWidthsAside();
         restsAtARose();
         restsByKind();
+        restsTogetherAheadOfARose();
         straysAreUnknownThenBad();
         straysInLeastTerms();
         straysByFive();
@@ -130,6 +131,16 @@ public final class ChancesEdgesTest {
         check.due("a SHY one is shut in", y.boy(1, 5), 0);
         // The one may stay with the other (3), or go to the BIRD (1).
         resting("the one stays", y, 0, 1, 12, 10);
+    }
+
+    /** "each has 3": staying with the other is more than the 2 for going to a ROSE, where a PYM can not follow. */
+    private static void restsTogetherAheadOfARose() {
+        PaperTrellis x = Check.of("W321lttttrPa0Pa3");
+        check.due("the one can go left alone", x.boy(0, 5), 1);
+        check.due("there is a ROSE", x.cell(x.beside(0, 0, false)), 3);
+        check.due("the other is shut in", x.boy(1, 5), 0);
+        resting("the one stays", x, 0, 1, 12, 10);
+        resting("the other way round", x, 1, 0, 12, 1);
     }
 
     /** Promise 26: "UNKNOWN; BAD: n"; "n times (1 .. 5)" */

@@ -576,7 +576,7 @@ public final class PaperTrellis {
         }
 
         int cells() {
-            return figure(1) * figure(2);
+            return (bytes[1] - '0') * (bytes[2] - '0');
         }
 
         int boys() {
@@ -959,6 +959,8 @@ public final class PaperTrellis {
     /** Finds the fewest cells at which to call, so that all who are out hear. */
     private static final class Cover {
         private static final int ONE_MORE = 1 << MOST_CELLS, SETS_OF_BOYS = 1 << MOST_BOYS;
+        // More than all cells together make.
+        private static final int NOT_FOUND = 1 << 30;
 
         // For each set of boys the best cells by which just they hear: how many, then which (bits).
         final int[] best = new int[SETS_OF_BOYS];
@@ -967,7 +969,7 @@ public final class PaperTrellis {
             int home = scene.whoIsHome();
             int all = (1 << scene.pattern.boys) - 1;
             for (int set = 0; set < SETS_OF_BOYS; set++) {
-                best[set] = Integer.MAX_VALUE;
+                best[set] = NOT_FOUND;
             }
             best[home & all] = 0;
             // Cells are taken by rising bits, so the best set stays best when a cell is added to it.
@@ -979,7 +981,7 @@ public final class PaperTrellis {
 
         void addCell(int cell, int hearers) {
             for (int set = 0; set < SETS_OF_BOYS; set++) {
-                if (best[set] != Integer.MAX_VALUE) {
+                if (best[set] != NOT_FOUND) {
                     int with = set | hearers;
                     best[with] = Math.min(best[with], best[set] + ONE_MORE + (1 << cell));
                 }

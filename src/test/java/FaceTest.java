@@ -30,6 +30,8 @@ public final class FaceTest {
         constructors();
         inside();
         words();
+        library();
+        fewFields();
         check.end();
     }
 
@@ -97,13 +99,47 @@ public final class FaceTest {
         }
     }
 
+    private static String sourceWithoutComments() throws IOException {
+        return Files.readString(SOURCE).replaceAll("(?s)/\\*.*?\\*/", "").replaceAll("//[^\n]*", "");
+    }
+
     private static void words() throws IOException {
-        String source = Files.readString(SOURCE).replaceAll("(?s)/\\*.*?\\*/", "").replaceAll("//[^\n]*", "");
+        String source = sourceWithoutComments();
         String[] ruledOut = {"\\b(throw|throws|try|catch|synchronized|assert|import|package)\\b", "static \\{",
             "->", "::", "\\b\\w+Exact\\b", "\\bObject\\b", "[^\\x00-\\x7f]"};
         for (String word : ruledOut) {
             Matcher found = Pattern.compile(word).matcher(source);
             check.due("the source holds " + word, found.find() ? 1 : 0, 0);
         }
+    }
+
+    /** Rule 4 lists functions alone: no constant of Integer, and no class that does not stand there. */
+    private static void library() throws IOException {
+        String source = sourceWithoutComments();
+        Set<String> allowed = new TreeSet<>(Arrays.asList("Integer.bitCount", "Integer.compare", "Long.compare",
+            "Math.max", "Math.min", "Math.abs", "Math.floorDiv", "Math.floorMod", "System.arraycopy",
+            "Arrays.copyOf", "Arrays.copyOfRange", "Arrays.fill"));
+        Matcher found = Pattern.compile("\\b(Integer|Long|Math|System|Arrays|Character|Double|Float)\\.\\w+\\b")
+            .matcher(source);
+        while (found.find()) {
+            check.due(found.group() + " stands in rule 4", allowed.contains(found.group()) ? 1 : 0, 1);
+        }
+        check.due("no name of a package", Pattern.compile("\\bjava[.x]").matcher(source).find() ? 1 : 0, 0);
+    }
+
+    /** Rule 11: some twenty fields beside the constants. */
+    private static void fewFields() {
+        fewFields(PaperTrellis.class);
+        for (Class<?> c : PaperTrellis.class.getDeclaredClasses()) {
+            fewFields(c);
+        }
+    }
+
+    private static void fewFields(Class<?> c) {
+        int many = 0;
+        for (Field f : c.getDeclaredFields()) {
+            many += Modifier.isStatic(f.getModifiers()) ? 0 : 1;
+        }
+        check.due(c + " has twenty fields at most", many <= 20 ? 1 : 0, 1);
     }
 }
